@@ -33,9 +33,11 @@ public final class AheadBoundaries extends Sentences {
   }
 
   private static void sitsThen() {
-    sentence(18, "in n MINUTES (0 to 200). IllegalArgumentException: n", () -> {
+    sentence(18, "IllegalArgumentException: n", () -> {
       refusedEach("sits", AheadBoundaries::rich, ARGUMENT, new int[] {-1, 201, LEAST, MOST}, (x, n) -> x.sits(1, n));
       refused("sits(6, 201)", AheadBoundaries::rich, NO_SUCH, x -> x.sits(6, 201));
+    });
+    sentence(18, "in n MINUTES (0 to 200)", () -> {
       FrontChairs x = rising(199);
       is("sits(1, 0)", x.sits(1, 0), 1);
       is("sits(1, 199)", x.sits(1, 199), 1);
@@ -82,8 +84,10 @@ public final class AheadBoundaries extends Sentences {
       x.rise(1);
       is("1 is up for good", x.wetIn(1), NONE);
     });
-    sentence(20, "in n MINUTES (0 to 200). IllegalArgumentException: n", () -> {
+    sentence(20, "IllegalArgumentException: n", () -> {
       refusedEach("wetBy", AheadBoundaries::rich, ARGUMENT, new int[] {-1, 201, LEAST, MOST}, (x, n) -> x.wetBy(n));
+    });
+    sentence(20, "in n MINUTES (0 to 200)", () -> {
       FrontChairs x = told("beach 1 1;person at 0 0;tide:minute-198;");
       is("wetBy(0)", x.wetBy(0), 0);
       is("wetBy(199)", x.wetBy(199), 0);
@@ -112,8 +116,10 @@ public final class AheadBoundaries extends Sentences {
       FrontChairs y = after("beach 1 1;person at 0 0 rises 0 for 99;", 1);
       is("back in row 0", y.frontIn(0), 99);
     });
-    sentence(22, "in n MINUTES (0 to 200), as bits. IllegalArgumentException: n", () -> {
+    sentence(22, "IllegalArgumentException: n", () -> {
       refusedEach("front", AheadBoundaries::rich, ARGUMENT, new int[] {-1, 201, LEAST, MOST}, (x, n) -> x.front(n));
+    });
+    sentence(22, "in n MINUTES (0 to 200), as bits", () -> {
       FrontChairs x = rising(199);
       is("front(0)", x.front(0), 1);
       is("front(199)", x.front(199), 1);
@@ -124,8 +130,10 @@ public final class AheadBoundaries extends Sentences {
   }
 
   private static void kings() {
-    sentence(23, "n MINUTES to come (0 to 200). IllegalArgumentException: n", () -> {
+    sentence(23, "IllegalArgumentException: n", () -> {
       refusedEach("king", AheadBoundaries::rich, ARGUMENT, new int[] {-1, 201, LEAST, MOST}, (x, n) -> x.king(n));
+    });
+    sentence(23, "n MINUTES to come (0 to 200)", () -> {
       is("king(0)", rising(0).king(0), 0);
       String half = "beach 1 2;person at 0 1;person at 0 0 rises 100 for 99;";
       is("king(200): 100 of each, the 101st of the second", told(half).king(200), 1);
@@ -140,6 +148,11 @@ public final class AheadBoundaries extends Sentences {
     sentence(23, "the first", () -> {
       is("of two columns", told("beach 2 1;person at 1 0;person at 0 0;").king(200), 0);
       is("of all", told("beach 2 2;person at 0 1;person at 1 0;person at 0 0;").king(9), 1);
+    });
+    sentence(23, "Who sat in ROW 0 most often: the last of eight", () -> {
+      is("large", large().king(200), 0);
+      is("the eighth", told("beach 4 2;person at 0 1;person at 1 1;person at 2 1;person at 3 1;person at 0 0 rises 0 for 99;"
+          + "person at 1 0 rises 0 for 99;person at 2 0 rises 0 for 99;person at 3 0;moves:1=2;").king(50), 7);
     });
     sentence(23, "NONE: nobody did", () -> {
       is("behind only", told("beach 1 2;person at 0 1;").king(200), NONE);
@@ -156,7 +169,7 @@ public final class AheadBoundaries extends Sentences {
       refused("no such PERSON first", AheadBoundaries::rich, NO_SUCH, x -> x.bring(6, 4, 9));
       is("the last row", large().bring(1, 4, 0), 0);
     });
-    sentence(24, "another what (10 to 17)", () -> {
+    sentence(24, "IllegalArgumentException: another what (10 to 17)", () -> {
       refusedEach("bring", AheadBoundaries::rich, ARGUMENT, new int[] {-1, 1, 2, 9, 18, 19, LEAST, MOST}, (x, what) -> x.bring(1, 0, what));
       refusedEach("bring of who is up", AheadBoundaries::rich, ARGUMENT, new int[] {1, 9, 18}, (x, what) -> x.bring(0, 0, what));
       for (int what = 10; what <= 17; what++) { is("bring(0, 0, " + what + ")", told(FIVE).bring(0, 0, what), what < 14 ? what - 9 : NONE); }
@@ -186,6 +199,8 @@ public final class AheadBoundaries extends Sentences {
       FrontChairs w = told("beach 1 3;person at 0 2;person at 0 0 asleep;");
       is("one asleep doesn't rise", w.bring(0, 0, 0), NONE);
       is("it itself doesn't rise", told("beach 1 3;person at 0 2;").bring(0, 0, 0), NONE);
+      is("none of eight", large().bring(6, 0, 0), NONE);
+      is("none of eight, who", large().bring(6, 0, 17), NONE);
     });
   }
 
@@ -217,10 +232,14 @@ public final class AheadBoundaries extends Sentences {
   }
 
   private static void faint() {
-    sentence(25, "in n MINUTES (0 to 60). IllegalArgumentException: n, another what", () -> {
+    sentence(25, "IllegalArgumentException: n", () -> {
       refusedEach("faints, n", AheadBoundaries::rich, ARGUMENT, new int[] {-1, 61, LEAST, MOST}, (x, n) -> x.faints(1, n, 0));
-      refusedEach("faints, what", AheadBoundaries::rich, ARGUMENT, new int[] {-1, 2, LEAST, MOST}, (x, what) -> x.faints(1, 0, what));
       refused("faints(6, 61, 2)", AheadBoundaries::rich, NO_SUCH, x -> x.faints(6, 61, 2));
+    });
+    sentence(25, "IllegalArgumentException: another what", () -> {
+      refusedEach("faints, what", AheadBoundaries::rich, ARGUMENT, new int[] {-1, 2, LEAST, MOST}, (x, what) -> x.faints(1, 0, what));
+    });
+    sentence(25, "in n MINUTES (0 to 60)", () -> {
       is("in 59", rising(59).faints(1, 59, 0), 1);
       is("in 60, by the plan alone", rising(59).faints(1, 60, 0), 0);
     });
@@ -234,8 +253,11 @@ public final class AheadBoundaries extends Sentences {
     sentence(25, "NONE: none do", () -> {
       FrontChairs x = told("beach 1 2;person at 0 1;person at 0 0 asleep;");
       is("one asleep in front", x.faints(0, 60, 0), NONE);
+      is("the first asleep in front", told("beach 1 2;person at 0 0 asleep;person at 0 1;").faints(1, 60, 0), NONE);
       is("which", x.faints(0, 60, 1), NONE);
       is("free chairs in front", told("beach 1 2;person at 0 1;").faints(0, 60, 0), NONE);
+      is("none of eight", large().faints(6, 60, 0), NONE);
+      is("one of eight", large().faints(1, 60, 1), 8);
       FrontChairs y = told(FIVE);
       y.rise(4);
       is("up", y.faints(4, 60, 1), NONE);
@@ -317,6 +339,7 @@ public final class AheadBoundaries extends Sentences {
       is("asleep in front of both", told("beach 1 3;person at 0 0 asleep;person at 0 1;person at 0 2;").round(0), NONE);
       is("asleep at the back", told("beach 1 3;person at 0 0;person at 0 1;person at 0 2 asleep;").round(0), NONE);
       is("all asleep", told("beach 1 2;person at 0 0 asleep;person at 0 1 asleep;").round(0), NONE);
+      is("none of another column", told("beach 2 2;person at 1 0 asleep;person at 0 1 rises 0 for 2;").round(0), NONE);
     });
     sentence(26, "ahead of all it brings", () -> {
       FrontChairs x = told("beach 1 2;person at 0 0 rises 0 for 1;person at 0 1;");
@@ -333,6 +356,10 @@ public final class AheadBoundaries extends Sentences {
   private static void stirs() {
     sentence(27, "by whose RISING now most others come forward, the first", () -> {
       is("the most", told(FIVE).stir(), 4);
+      is("person 0", told("beach 1 2;person at 0 0;person at 0 1;").stir(), 0);
+      is("now: not in a minute", told("beach 1 3;person at 0 0 rises 0 for 9;person at 0 1;person at 0 2;").stir(), 0);
+      is("the eighth", told("beach 4 2;person at 0 0 asleep;person at 1 0;person at 2 0;person at 0 1;person at 3 1;person at 1 1 asleep;"
+          + "person at 2 1 asleep;person at 3 0;").stir(), 7);
       is("the first of like ones", told("beach 2 2;person at 1 1;person at 1 0;person at 0 0;person at 0 1;").stir(), 1);
     });
     sentence(27, "NONE: none RISES so that one does", () -> {
@@ -352,13 +379,13 @@ public final class AheadBoundaries extends Sentences {
       + "person at 2 1;person at 2 0;person at 3 0;";
 
   private static void handsBetween() {
-    sentence(28, "IllegalArgumentException: both one; IllegalStateException: one is UP", () -> {
-      for (int p = 1; p < 6; p++) {
+    sentence(28, "IllegalArgumentException: both one", () -> {
+      for (int p = 0; p < 6; p++) {
         int who = p;
         refused("hands(" + p + ", " + p + ")", AheadBoundaries::rich, ARGUMENT, x -> x.hands(who, who));
-        refused("cut(" + p + ", " + p + ")", AheadBoundaries::rich, ARGUMENT, x -> x.cut(who, who));
       }
-      refused("hands(0, 0), which is up", AheadBoundaries::rich, ARGUMENT, x -> x.hands(0, 0));
+    });
+    sentence(28, "IllegalStateException: one is UP", () -> {
       refused("hands(0, 1)", AheadBoundaries::rich, STATE, x -> x.hands(0, 1));
       refused("hands(1, 0)", AheadBoundaries::rich, STATE, x -> x.hands(1, 0));
       refused("hands(0, 4)", AheadBoundaries::rich, STATE, x -> x.hands(0, 4));
@@ -426,8 +453,13 @@ public final class AheadBoundaries extends Sentences {
   }
 
   private static void cuts() {
-    sentence(30, "IllegalArgumentException: both one; IllegalStateException: one is UP", () -> {
-      refused("cut(0, 0), which is up", AheadBoundaries::rich, ARGUMENT, x -> x.cut(0, 0));
+    sentence(30, "IllegalArgumentException: both one", () -> {
+      for (int p = 0; p < 6; p++) {
+        int who = p;
+        refused("cut(" + p + ", " + p + ")", AheadBoundaries::rich, ARGUMENT, x -> x.cut(who, who));
+      }
+    });
+    sentence(30, "IllegalStateException: one is UP", () -> {
       refused("cut(6, 6)", AheadBoundaries::rich, NO_SUCH, x -> x.cut(6, 6));
       refused("cut(0, 6)", AheadBoundaries::rich, NO_SUCH, x -> x.cut(0, 6));
       refused("cut(0, 1)", AheadBoundaries::rich, STATE, x -> x.cut(0, 1));
@@ -435,12 +467,14 @@ public final class AheadBoundaries extends Sentences {
     });
     sentence(30, "0: there is none anyhow", () -> {
       is("no way", told("beach 3 1;person at 0 0;person at 2 0;").cut(0, 1), 0);
+      is("no way, with others", told("beach 4 2;person at 0 0;person at 2 0;person at 0 1;person at 3 1;").cut(0, 1), 0);
     });
     sentence(30, "each of whom would leave no way, nobody coming forward", () -> {
       FrontChairs x = told(SNAKE);
       is("all between", x.cut(0, 7), 126);
       is("the other way round", x.cut(7, 0), 126);
       is("one between", x.cut(0, 2), 2);
+      is("person 0 between", told("beach 1 3;person at 0 1;person at 0 0;person at 0 2;").cut(1, 2), 1);
       is("side by side", x.cut(0, 1), 0);
       is("two ways", told("beach 2 2;person at 0 0;person at 0 1;person at 1 1;person at 1 0;").cut(0, 2), 0);
       is("two ways, then one", told("beach 2 3;person at 0 0;person at 0 1;person at 1 1;person at 1 0;person at 1 2;").cut(0, 4), 4);
@@ -464,10 +498,14 @@ public final class AheadBoundaries extends Sentences {
   }
 
   private static void dries() {
-    sentence(32, "in n MINUTES (0 to 15). IllegalArgumentException: n, another what", () -> {
+    sentence(32, "IllegalArgumentException: n", () -> {
       refusedEach("dry, n", AheadBoundaries::rich, ARGUMENT, new int[] {-1, 16, LEAST, MOST}, (x, n) -> x.dry(1, n, 0));
-      refusedEach("dry, what", AheadBoundaries::rich, ARGUMENT, new int[] {-1, 2, LEAST, MOST}, (x, what) -> x.dry(1, 0, what));
       refused("dry(6, 16, 2)", AheadBoundaries::rich, NO_SUCH, x -> x.dry(6, 16, 2));
+    });
+    sentence(32, "IllegalArgumentException: another what", () -> {
+      refusedEach("dry, what", AheadBoundaries::rich, ARGUMENT, new int[] {-1, 2, LEAST, MOST}, (x, what) -> x.dry(1, 0, what));
+    });
+    sentence(32, "in n MINUTES (0 to 15)", () -> {
       FrontChairs x = told("beach 1 1;person at 0 0;wets:1;");
       long above = 1;
       long below = 1;
@@ -524,10 +562,15 @@ public final class AheadBoundaries extends Sentences {
   }
 
   private static void driestAndWhere() {
-    sentence(33, "in n MINUTES (0 to 15), the first; NONE: no PEOPLE. IllegalArgumentException: n", () -> {
+    sentence(33, "IllegalArgumentException: n", () -> {
       refusedEach("driest", AheadBoundaries::rich, ARGUMENT, new int[] {-1, 16, LEAST, MOST}, (x, n) -> x.driest(n));
       refused("driest(16) of none", FrontChairs::new, ARGUMENT, x -> x.driest(16));
-      is("no people", told("beach 4 5;").driest(15), NONE);
+    });
+    sentence(33, "NONE: no PEOPLE", () -> {
+      is("15 minutes", told("beach 4 5;").driest(15), NONE);
+      is("0 minutes", told("beach 4 5;").driest(0), NONE);
+    });
+    sentence(33, "in n MINUTES (0 to 15), the first", () -> {
       FrontChairs x = told("beach 1 2;person at 0 0;person at 0 1;");
       is("0 minutes: the first", x.driest(0), 0);
       is("1 minute", x.driest(1), 1);
@@ -535,22 +578,35 @@ public final class AheadBoundaries extends Sentences {
       is("all are wetted: the first", told("beach 1 2;person at 0 1;person at 0 0;wets:10;").driest(15), 0);
       FrontChairs y = told("beach 1 2;person at 0 0;person at 0 1;wets:minute-14+row*9;");
       is("like ones, but in the 15th minute", y.driest(14), 0);
+      FrontChairs w = told("beach 2 1;person at 0 0;person at 1 0;wets:5-minute*9+column;");
+      is("from now on: the first minute", w.driest(1), 0);
+      FrontChairs v = told("beach 2 1;person at 0 0;person at 1 0;wets:5-minute*9-column;");
+      is("from now on", v.driest(1), 1);
       is("10 to the 15 less one", told("beach 2 1;person at 0 0;person at 1 0;wets:(minute-13)*(1-column);").driest(15), 1);
     });
-    sentence(34, "in n MINUTES (0 to 15). IllegalArgumentException: n; IllegalStateException: it sits", () -> {
+    sentence(34, "IllegalArgumentException: n", () -> {
       refusedEach("where, n", AheadBoundaries::upOfThree, ARGUMENT, new int[] {-1, 16, LEAST, MOST}, (x, n) -> x.where(0, n));
       refused("where(1, 16), which sits", AheadBoundaries::upOfThree, ARGUMENT, x -> x.where(1, 16));
       refused("where(4, 16)", AheadBoundaries::upOfThree, NO_SUCH, x -> x.where(4, 16));
+    });
+    sentence(34, "IllegalStateException: it sits", () -> {
       refused("where(1, 15)", AheadBoundaries::upOfThree, STATE, x -> x.where(1, 15));
       refused("where(1, 0)", AheadBoundaries::upOfThree, STATE, x -> x.where(1, 0));
     });
-    sentence(34, "likeliest DRY, the first", () -> {
+    sentence(34, "to be likeliest DRY in n MINUTES (0 to 15), the first", () -> {
       only("0 minutes", AheadBoundaries::upOfThree, 0, x -> x.where(0, 0));
       only("1 minute", AheadBoundaries::upOfThree, 2, x -> x.where(0, 1));
       only("15 minutes", AheadBoundaries::upOfThree, 2, x -> x.where(0, 15));
       FrontChairs x = told("beach 3 1;person at 0 0;wets:10;");
       x.rise(0);
       is("nowhere: the first", x.where(0, 15), 0);
+    });
+    sentence(34, "to SIT now", () -> {
+      FrontChairs x = told("beach 2 1;person at 0 0;wets:(1-minute)*(5-column);");
+      x.rise(0);
+      is("minute 0", x.where(0, 1), 1);
+      x.minutes(1);
+      is("minute 1", x.where(0, 1), 0);
     });
     sentence(34, "would have to SIT: where a CHAIR is FREE", () -> {
       FrontChairs x = told("beach 2 1;person at 0 0;person at 1 0;wets:5-column*5;");
@@ -658,6 +714,13 @@ public final class AheadBoundaries extends Sentences {
       is("none in all", z.sure(1, 1), 0);
       z.rise(3);
       is("one two left", z.sure(1, 1), 6);
+      FrontChairs last = told(EIGHT);
+      for (int p = 0; p < 6; p++) { last.rise(p); }
+      is("6 and 7 alone sit", last.changedAt(0, 1, 0), 67);
+      is("6 and 7", last.sure(0, 1), 192);
+      FrontChairs most = told("beach 4 2;person at 0 0;person at 0 1;person at 1 0;person at 1 1;person at 2 0;person at 2 1;person at 3 1;"
+          + "person at 3 0;tide:1-minute;moves:1=2;");
+      is("0, 2, 4 and 6 get wet: 6 and 7 changed", most.sure(85, 1), 192);
     });
     sentence(38, "NONE: there are none", () -> {
       is("none", told(EIGHT).look(1, 60), NONE);
@@ -676,6 +739,11 @@ public final class AheadBoundaries extends Sentences {
       FrontChairs x = told("beach 4 2;person at 0 1 rises 0 for 9;person at 1 1;person at 2 1;person at 3 1;");
       is("0 is up by all", x.look(0, 1), 1);
       is("then it is not", x.look(0, 10), lookByHand(x, 0, 10));
+      FrontChairs all = told(EIGHT.replace(";person", " rises 0 for 9;person").replace("beach 4 2 rises 0 for 9", "beach 4 2")
+          .replace("person at 3 1;", "person at 3 1 rises 0 for 9;"));
+      is("all are up then", all.front(9), 0);
+      is("28 twos", all.changed(0, 9), 28);
+      is("all are up by all: the first", all.look(0, 9), 0);
     });
     sentence(38, "behind n MINUTES", () -> {
       for (int n = 1; n < 60; n++) {

@@ -88,7 +88,7 @@ public final class DeedBoundaries extends Sentences {
       refused("beach(1)", FrontChairs::new, ARGUMENT, x -> x.beach(1));
       is("beach(0)", new FrontChairs().beach(0), -12);
     });
-    sentence(0, "IMAGES 0 to 2: none at first; no DEEDS", () -> {
+    sentence(1, "IMAGES 0 to 2: none at first; no DEEDS", () -> {
       for (int i = 0; i < 3; i++) {
         int image = i;
         refused("restore(" + i + ")", FrontChairs::new, STATE, x -> { x.restore(image); return 0; });
@@ -190,8 +190,10 @@ public final class DeedBoundaries extends Sentences {
   }
 
   private static void tides() {
-    sentence(7, "in n MINUTES (0 to 999). IllegalArgumentException: n", () -> {
+    sentence(7, "IllegalArgumentException: n", () -> {
       refusedEach("tide", DeedBoundaries::rich, ARGUMENT, new int[] {-1, 1000, LEAST, MOST}, (x, n) -> x.tide(n));
+    });
+    sentence(7, "in n MINUTES (0 to 999)", () -> {
       FrontChairs x = told("beach 1 5;tide:minute-999-997;minute 999;");
       is("tide(0)", x.tide(0), 0);
       is("tide(998)", x.tide(998), 1);
@@ -213,7 +215,10 @@ public final class DeedBoundaries extends Sentences {
   }
 
   private static void movesAlone() {
-    sentence(8, "NoSuchElementException: the PERSON, the CHAIR", () -> {
+    sentence(8, "NoSuchElementException: the PERSON", () -> {
+      refusedEach("moves", DeedBoundaries::rich, NO_SUCH, NO_PERSON_OF_SIX, (x, p) -> x.moves(p, 0, 0) ? 1 : 0);
+    });
+    sentence(8, "NoSuchElementException: the CHAIR", () -> {
       int[][] none = {{-1, 0}, {2, 0}, {0, -1}, {0, 4}, {LEAST, 0}, {MOST, 0}, {0, LEAST}, {0, MOST}};
       for (int[] c : none) { refused("moves(0, " + c[0] + ", " + c[1] + ")", DeedBoundaries::rich, NO_SUCH, x -> x.moves(0, c[0], c[1]) ? 1 : 0); }
       refused("moves(6, 9, 9)", DeedBoundaries::rich, NO_SUCH, x -> x.moves(6, 9, 9) ? 1 : 0);
@@ -243,16 +248,20 @@ public final class DeedBoundaries extends Sentences {
   }
 
   private static void wetted() {
-    sentence(9, "in n MINUTES (0 to 999). NoSuchElementException: the CHAIR; IllegalArgumentException: n", () -> {
+    sentence(9, "in n MINUTES (0 to 999)", () -> {
+      FrontChairs x = told("beach 4 5;wets:minute-999-991;minute 999;");
+      is("wets(3, 4, 0)", x.wets(3, 4, 0), 0);
+      is("wets(3, 4, 999)", x.wets(3, 4, 999), 8);
+    });
+    sentence(9, "IllegalArgumentException: n", () -> {
       refusedEach("wets", DeedBoundaries::rich, ARGUMENT, new int[] {-1, 1000, LEAST, MOST}, (x, n) -> x.wets(0, 0, n));
+    });
+    sentence(9, "NoSuchElementException: the CHAIR", () -> {
       int[][] none = {{-1, 0}, {2, 0}, {0, -1}, {0, 4}, {LEAST, 0}, {MOST, 0}, {0, LEAST}, {0, MOST}};
       for (int[] c : none) {
         refused("wets(" + c[0] + ", " + c[1] + ", 0)", DeedBoundaries::rich, NO_SUCH, x -> x.wets(c[0], c[1], 0));
         refused("wets(" + c[0] + ", " + c[1] + ", 1000)", DeedBoundaries::rich, NO_SUCH, x -> x.wets(c[0], c[1], 1000));
       }
-      FrontChairs x = told("beach 4 5;wets:minute-999-991;minute 999;");
-      is("wets(3, 4, 0)", x.wets(3, 4, 0), 0);
-      is("wets(3, 4, 999)", x.wets(3, 4, 999), 8);
     });
     sentence(9, "0 at least, 10 at most (without one: 5 in ROW 0, else 0)", () -> {
       FrontChairs x = told("beach 1 1;wets:minute-3;");
@@ -283,12 +292,12 @@ public final class DeedBoundaries extends Sentences {
   }
 
   private static void whoComes() {
-    sentence(0, "behind it (in greater ROWS): none in front of it comes", () -> {
+    sentence(10, "behind it (in greater ROWS): none in front of it comes", () -> {
       FrontChairs x = told("beach 1 3;person at 0 0;person at 0 1;person at 0 2;");
       x.rise(1);
       sitSo("rise(1)", x, 0, "02.");
     });
-    sentence(0, "the nearest one that isn't ASLEEP", () -> {
+    sentence(10, "the nearest one that isn't ASLEEP", () -> {
       FrontChairs x = told("beach 1 5;person at 0 0;person at 0 1 asleep;person at 0 2 asleep;person at 0 4;");
       is("rise(0)", x.rise(0), 1);
       sitSo("over two asleep", x, 0, "312..");
@@ -296,12 +305,12 @@ public final class DeedBoundaries extends Sentences {
       is("all asleep", y.rise(0), 0);
       sitSo("all asleep", y, 0, ".12");
     });
-    sentence(0, "for whom the law moves holds", () -> {
+    sentence(10, "for whom the law moves holds", () -> {
       FrontChairs x = told("beach 1 4;person at 0 0;person at 0 1 age 9;person at 0 2 age 1;person at 0 3 age 9;moves:age<9;");
       is("rise(0)", x.rise(0), 1);
       sitSo("over one that may not", x, 0, "21.3");
     });
-    sentence(0, "its own one is FREE then: likewise, till nobody comes", () -> {
+    sentence(10, "its own one is FREE then: likewise, till nobody comes", () -> {
       FrontChairs x = told("beach 1 5;person at 0 0;person at 0 2;person at 0 3;person at 0 4;moves:not row=3;");
       is("rise(0)", x.rise(0), 2);
       sitSo("nobody to row 3", x, 0, "1.2.3");
@@ -309,7 +318,7 @@ public final class DeedBoundaries extends Sentences {
       is("only to row 0", y.rise(0), 1);
       sitSo("nobody to row 1", y, 0, "1.234");
     });
-    sentence(0, "who, age: of who would come, column, row: of the FREE CHAIR, minute: MINUTE", () -> {
+    sentence(10, "who, age: of who would come, column, row: of the FREE CHAIR, minute: MINUTE", () -> {
       FrontChairs x = told("beach 2 3;person at 1 0 age 5;person at 1 1 age 6;person at 1 2 age 7;minute 3;"
           + "moves:who=2 and age=7 and column=1 and row=0 and minute=3;");
       is("rise(0)", x.rise(0), 1);
@@ -321,8 +330,13 @@ public final class DeedBoundaries extends Sentences {
   }
 
   private static void sitting() {
-    sentence(11, "1 no such PERSON, COLUMN", () -> {
-      for (int p : NO_PERSON_OF_SIX) { only("sit(" + p + ", 0)", DeedBoundaries::rich, -1, x -> x.sit(p, 0)); }
+    sentence(11, "1 no such PERSON", () -> {
+      for (int p : NO_PERSON_OF_SIX) {
+        only("sit(" + p + ", 0)", DeedBoundaries::rich, -1, x -> x.sit(p, 0));
+        only("sit(" + p + ", 2)", DeedBoundaries::rich, -1, x -> x.sit(p, 2));
+      }
+    });
+    sentence(11, "1 no such COLUMN", () -> {
       for (int c : new int[] {-1, 2, 3, 4, LEAST, MOST}) {
         only("sit(0, " + c + ")", DeedBoundaries::rich, -1, x -> x.sit(0, c));
         only("sit(1, " + c + "), which sits", DeedBoundaries::rich, -1, x -> x.sit(1, c));
@@ -352,7 +366,7 @@ public final class DeedBoundaries extends Sentences {
       y.rise(1);
       is("its own one", y.sit(1, 0), 3);
     });
-    sentence(0, "who SITS by hand is UP by its plan no more", () -> {
+    sentence(11, "who SITS by hand is UP by its plan no more", () -> {
       FrontChairs x = after("beach 2 1;person at 0 0 rises 0 for 3;", 1);
       x.sit(0, 1);
       is("person(0, 7)", x.person(0, 7), NONE);
@@ -363,12 +377,14 @@ public final class DeedBoundaries extends Sentences {
   }
 
   private static void swapping() {
-    sentence(12, "1 no such PERSON, both one", () -> {
+    sentence(12, "1 no such PERSON", () -> {
       for (int p : NO_PERSON_OF_SIX) {
         only("swap(" + p + ", 1)", DeedBoundaries::rich, -1, x -> x.swap(p, 1));
         only("swap(1, " + p + ")", DeedBoundaries::rich, -1, x -> x.swap(1, p));
         only("swap(0, " + p + "), 0 being up", DeedBoundaries::rich, -1, x -> x.swap(0, p));
       }
+    });
+    sentence(12, "1 both one", () -> {
       only("swap(1, 1)", DeedBoundaries::rich, -1, x -> x.swap(1, 1));
       only("swap(0, 0), 0 being up", DeedBoundaries::rich, -1, x -> x.swap(0, 0));
       only("swap(6, 6)", DeedBoundaries::rich, -1, x -> x.swap(6, 6));
@@ -397,8 +413,10 @@ public final class DeedBoundaries extends Sentences {
   }
 
   private static void minutesOfOneCall() {
-    sentence(13, "n MINUTES (1 to 99). IllegalArgumentException: n", () -> {
+    sentence(13, "IllegalArgumentException: n", () -> {
       refusedEach("minutes", DeedBoundaries::rich, ARGUMENT, new int[] {0, -1, 100, LEAST, MOST}, (x, n) -> x.minutes(n));
+    });
+    sentence(13, "n MINUTES (1 to 99)", () -> {
       FrontChairs x = told("beach 1 1;minute 999;");
       x.minutes(1);
       is("1", x.count(6), 1000);
@@ -418,7 +436,7 @@ public final class DeedBoundaries extends Sentences {
       FrontChairs z = told("beach 4 5;person at 0 0;person at 0 1;person at 1 0;person at 1 1;person at 2 0;person at 2 1;person at 3 0;person at 3 4;tide:9;");
       is("all eight", z.minutes(1), 8);
     });
-    sentence(0, "MINUTES of one call: one DEED", () -> {
+    sentence(13, "MINUTES of one call: one DEED", () -> {
       FrontChairs x = told("beach 1 1;");
       x.minutes(99);
       is("deeds", x.count(8), 1);
@@ -428,7 +446,7 @@ public final class DeedBoundaries extends Sentences {
   }
 
   private static void plans() {
-    sentence(0, "(1) has been for as long as told", () -> {
+    sentence(13, "(1) has been for as long as told", () -> {
       FrontChairs x = told("beach 1 1;person at 0 0 rises 2 for 3;");
       int[] up = {0, 0, 0, 1, 1, 1, 0, 0};
       for (int i = 0; i < up.length; i++) {
@@ -445,18 +463,18 @@ public final class DeedBoundaries extends Sentences {
       z.minutes(1);
       is("for 99: back", z.count(4), 0);
     });
-    sentence(0, "SITS in the COLUMN where it sat last", () -> {
+    sentence(13, "SITS in the COLUMN where it sat last", () -> {
       FrontChairs x = told("beach 2 2;person at 0 0 rises 1 for 1;person at 1 0;");
       x.swap(0, 1);
       x.minutes(3);
       is("column", x.person(0, 0), 1);
       is("at the back", x.person(0, 1), 1);
     });
-    sentence(0, "one behind the other by numbers", () -> {
+    sentence(13, "one behind the other by numbers", () -> {
       FrontChairs x = after("beach 1 3;person at 0 2 rises 0 for 2;person at 0 1 rises 1 for 1;person at 0 0 rises 0 for 2;", 3);
       sitSo("all in minute 2", x, 0, "210");
     });
-    sentence(0, "if none is FREE there, it tries in each MINUTE again", () -> {
+    sentence(13, "if none is FREE there, it tries in each MINUTE again", () -> {
       FrontChairs x = after("beach 2 1;person at 0 0 rises 0 for 1;person at 1 0;", 1);
       x.rise(1);
       x.sit(1, 0);
@@ -468,7 +486,7 @@ public final class DeedBoundaries extends Sentences {
       x.minutes(1);
       is("then", x.person(0, 1), 0);
     });
-    sentence(0, "(1) ahead of (2): who sits down may take a CHAIR only then FREE the MINUTE after", () -> {
+    sentence(13, "(1) ahead of (2): who sits down may take a CHAIR only then FREE the MINUTE after", () -> {
       FrontChairs x = after("beach 2 1;person at 0 0 rises 0 for 1;person at 1 0 rises 1 for 9;", 1);
       x.rise(1);
       x.sit(1, 0);
@@ -477,7 +495,7 @@ public final class DeedBoundaries extends Sentences {
       x.minutes(1);
       is("0 sits in minute 2", x.count(4), 2);
     });
-    sentence(0, "(2) if it sits and isn't ASLEEP", () -> {
+    sentence(13, "(2) if it sits and isn't ASLEEP", () -> {
       FrontChairs x = told("beach 3 1;person at 0 0 asleep rises 0 for 2;person at 1 0 rises 0 for 2;person at 2 0 rises 0 for 2;");
       x.rise(1);
       x.minutes(1);
@@ -487,7 +505,7 @@ public final class DeedBoundaries extends Sentences {
       x.minutes(9);
       is("who is UP otherwise stays so", x.count(4), 2);
     });
-    sentence(0, "Whose plan is for this MINUTE", () -> {
+    sentence(13, "Whose plan is for this MINUTE", () -> {
       FrontChairs x = after("beach 2 1;person at 0 0 rises 4 for 9;person at 1 0 rises 5 for 9;minute 5;", 1);
       is("a plan of a minute gone by is none", x.count(4), 2);
       FrontChairs y = after("beach 1 1;person at 0 0 rises 2 for 9;", 2);
@@ -495,7 +513,7 @@ public final class DeedBoundaries extends Sentences {
       y.minutes(1);
       is("in minute 2", y.count(4), 1);
     });
-    sentence(0, "RISES by it, by numbers", () -> {
+    sentence(13, "RISES by it, by numbers", () -> {
       FrontChairs x = after("beach 1 3;person at 0 0 rises 0 for 9;person at 0 1 rises 0 for 9;person at 0 2;moves:row=1;", 1);
       sitSo("0, then 1 from row 1", x, 0, ".2.");
       FrontChairs y = after("beach 1 3;person at 0 1 rises 0 for 9;person at 0 0 rises 0 for 9;person at 0 2;moves:row=1;", 1);
@@ -508,20 +526,20 @@ public final class DeedBoundaries extends Sentences {
   }
 
   private static void tideOfAMinute() {
-    sentence(0, "so many ROWS, from 0 on: Who sits in one of these is WET", () -> {
+    sentence(13, "so many ROWS, from 0 on: Who sits in one of these is WET", () -> {
       for (int tide = 0; tide <= 5; tide++) {
         FrontChairs x = told("beach 1 5;person at 0 0;person at 0 1;person at 0 2;person at 0 3;person at 0 4;tide:" + tide + ";");
         is("minutes(1)", x.minutes(1), tide);
         is("wet by tide " + tide, x.count(5), (1 << tide) - 1);
       }
     });
-    sentence(0, "WET, for good", () -> {
+    sentence(13, "WET, for good", () -> {
       FrontChairs x = after("beach 1 2;person at 0 0;person at 0 1;tide:1-minute;", 1);
       x.rise(0);
       x.minutes(9);
       is("wet", x.count(5), 1);
     });
-    sentence(0, "(3) The TIDE is as in this MINUTE: who is UP isn't WET, nor who sits behind", () -> {
+    sentence(13, "(3) The TIDE is as in this MINUTE: who is UP isn't WET, nor who sits behind", () -> {
       FrontChairs x = told("beach 1 2;person at 0 0 rises 0 for 1;person at 0 1;tide:1-minute;");
       is("who came forward", x.minutes(1), 1);
       is("it", x.count(5), 2);
@@ -535,12 +553,12 @@ public final class DeedBoundaries extends Sentences {
       z.swap(0, 1);
       is("swapped behind the tide", z.count(5), 1);
     });
-    sentence(0, "(1) and (2) ahead of (3)", () -> {
+    sentence(13, "(1) and (2) ahead of (3)", () -> {
       FrontChairs x = told("beach 1 1;person at 0 0 rises 0 for 1;tide:minute*(2-minute);");
       x.minutes(1);
       is("it sits in minute 1, and is wet in it", x.minutes(1), 1);
     });
-    sentence(0, "MINUTE is 1 more", () -> {
+    sentence(13, "MINUTE is 1 more", () -> {
       FrontChairs x = told("beach 1 1;minute 999;");
       x.minutes(1);
       is("behind 999", x.count(6), 1000);
@@ -556,6 +574,8 @@ public final class DeedBoundaries extends Sentences {
   private static void undoing() {
     sentence(14, "IllegalArgumentException: n isn't 1 to 10", () -> {
       refusedEach("undo", () -> tenAndMore(12), ARGUMENT, new int[] {0, -1, 11, 12, LEAST, MOST}, (x, n) -> x.undo(n));
+    });
+    sentence(14, "n DEEDS are UNDONE: how many still can be", () -> {
       for (int n = 1; n <= 10; n++) { is("undo(" + n + ") of ten", tenAndMore(12).undo(n), 10 - n); }
     });
     sentence(14, "IllegalArgumentException: there aren't so many", () -> {
@@ -571,7 +591,7 @@ public final class DeedBoundaries extends Sentences {
       is("undo(1)", x.undo(1), 2);
       is("undo(2)", x.undo(2), 0);
     });
-    sentence(0, "each can be UNDONE, the latest first", () -> {
+    sentence(14, "each can be UNDONE, the latest first", () -> {
       FrontChairs x = rich();
       String[] before = new String[5];
       x.restore(2);
@@ -588,7 +608,7 @@ public final class DeedBoundaries extends Sentences {
         holds("deed " + i + " is undone", seen(x).equals(before[i]));
       }
     });
-    sentence(0, "10 at most (eldest are forgotten)", () -> {
+    sentence(14, "10 at most (eldest are forgotten)", () -> {
       for (int deeds = 9; deeds <= 23; deeds++) {
         FrontChairs x = tenAndMore(deeds);
         is("count(8)", x.count(8), Math.min(10, deeds));
@@ -605,7 +625,7 @@ public final class DeedBoundaries extends Sentences {
       is("undo(1)", x.undo(1), 0);
       is("minute", x.count(6), 3);
     });
-    sentence(0, "what can't be is no DEED", () -> {
+    sentence(14, "what can't be is no DEED", () -> {
       FrontChairs x = two();
       x.rise(9);
       x.rise(3);
@@ -616,14 +636,18 @@ public final class DeedBoundaries extends Sentences {
   }
 
   private static void judging() {
-    sentence(15, "NoSuchElementException: no such TRAY (as below)", () -> {
+    sentence(15, "NoSuchElementException: no such TRAY", () -> {
       refusedEach("judge", DeedBoundaries::rich, NO_SUCH, new int[] {-1, 4, LEAST, MOST}, (x, t) -> x.judge(t, 9));
+    });
+    sentence(16, "NoSuchElementException: no such TRAY (as below)", () -> {
       refusedEach("perform", DeedBoundaries::rich, NO_SUCH, new int[] {-1, 4, LEAST, MOST}, (x, t) -> x.perform(t));
     });
-    sentence(15, "IllegalStateException: it is MISSING (as below)", () -> {
+    sentence(16, "IllegalStateException: it is MISSING (as below)", () -> {
+      refused("perform(2)", DeedBoundaries::rich, STATE, x -> x.perform(2));
+    });
+    sentence(15, "IllegalStateException: it is MISSING", () -> {
       refused("judge(2, 0)", DeedBoundaries::rich, STATE, x -> x.judge(2, 0));
       refused("judge(2, 9)", DeedBoundaries::rich, STATE, x -> x.judge(2, 9));
-      refused("perform(2)", DeedBoundaries::rich, STATE, x -> x.perform(2));
     });
     sentence(15, "IllegalArgumentException: another what", () -> {
       refusedEach("judge", DeedBoundaries::rich, ARGUMENT, new int[] {-1, 4, LEAST, MOST}, (x, what) -> x.judge(0, what));
@@ -673,13 +697,13 @@ public final class DeedBoundaries extends Sentences {
   }
 
   private static void toldDeeds() {
-    sentence(0, "0 to 9: PERSON v RISES", () -> {
+    sentence(15, "0 to 9: PERSON v RISES", () -> {
       FrontChairs x = large();
       for (int v = 0; v < 10; v++) { is("why not " + v, why(x, v), v > 7 ? 1 : v == 7 ? 3 : 0); }
       x.rise(1);
       is("up", why(x, 1), 2);
     });
-    sentence(0, "100 and 10 p and c: p SITS in COLUMN c", () -> {
+    sentence(15, "100 and 10 p and c: p SITS in COLUMN c", () -> {
       FrontChairs x = two();
       x.rise(0);
       for (int p = 0; p < 10; p++) {
@@ -692,7 +716,7 @@ public final class DeedBoundaries extends Sentences {
       is("full", why(full, 101), 3);
       is("not full", why(full, 100), 0);
     });
-    sentence(0, "200 and 10 p and q: they SWAP", () -> {
+    sentence(15, "200 and 10 p and q: they SWAP", () -> {
       FrontChairs x = two();
       x.rise(0);
       for (int p = 0; p < 10; p++) {
@@ -701,11 +725,11 @@ public final class DeedBoundaries extends Sentences {
         }
       }
     });
-    sentence(0, "others to 299: 1", () -> {
+    sentence(15, "others to 299: 1", () -> {
       FrontChairs x = large();
       for (int v = 10; v < 100; v++) { is("why not " + v, why(x, v), 1); }
     });
-    sentence(0, "NONE: a MINUTE; others: 1", () -> {
+    sentence(15, "NONE: a MINUTE; others: 1", () -> {
       FrontChairs x = large();
       is("NONE", why(x, NONE), 0);
       is("a minute", x.judge(3, 3), 1);
@@ -799,8 +823,10 @@ public final class DeedBoundaries extends Sentences {
   }
 
   private static void afternoons() {
-    sentence(17, "so many times (1 to 30). IllegalArgumentException: how many times", () -> {
+    sentence(17, "IllegalArgumentException: how many times", () -> {
       refusedEach("afternoon", DeedBoundaries::rich, ARGUMENT, new int[] {0, -1, 31, LEAST, MOST}, (x, times) -> x.afternoon(1, times));
+    });
+    sentence(17, "so many times (1 to 30), by a SEED (x, an int", () -> {
       for (int seed : new int[] {0, 1, -1, LEAST, MOST, 12345, -987654321}) {
         for (int times : new int[] {1, 2, 29, 30}) {
           FrontChairs x = rich();

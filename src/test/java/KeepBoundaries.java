@@ -48,6 +48,7 @@ public final class KeepBoundaries extends Sentences {
       lay(x, 1, 0, NONE, NONE, NONE);
       x.tray(1, 3, 3);
       is("0 rises, then can't", x.judge(1, 0), 1);
+      is("0, not another", x.judge(1, 2), 18);
       is("no minute", x.judge(1, 3), 5);
       lay(x, 1, 0, NONE);
       x.tray(1, 3, 2);
@@ -66,8 +67,10 @@ public final class KeepBoundaries extends Sentences {
   }
 
   private static void written() {
-    sentence(40, "no such TRAY; IllegalStateException: it is MISSING", () -> {
+    sentence(40, "NoSuchElementException: no such TRAY", () -> {
       refusedEach("write", KeepBoundaries::rich, NO_SUCH, NO_TRAY, (x, t) -> x.write(t, 99, 0));
+    });
+    sentence(40, "IllegalStateException: it is MISSING", () -> {
       refused("write(2, 0, 0)", KeepBoundaries::rich, STATE, x -> x.write(2, 0, 0));
       refused("write(2, 99, 0)", KeepBoundaries::rich, STATE, x -> x.write(2, 99, 0));
     });
@@ -117,10 +120,14 @@ public final class KeepBoundaries extends Sentences {
   }
 
   private static void copied() {
-    sentence(41, "NoSuchElementException, IllegalStateException", () -> {
-      refusedEach("copy, tray", KeepBoundaries::rich, NO_SUCH, NO_TRAY, (x, t) -> x.copy(t, 0));
+    sentence(41, "NoSuchElementException: no such TRAY (as below)", () -> {
+      refusedEach("copy", KeepBoundaries::rich, NO_SUCH, NO_TRAY, (x, t) -> x.copy(t, 0));
+    });
+    sentence(41, "NoSuchElementException: no such PERSON (as everywhere)", () -> {
       refusedEach("copy, person", KeepBoundaries::rich, NO_SUCH, new int[] {-1, 6, LEAST, MOST}, (x, p) -> x.copy(0, p));
       refusedEach("copy, person and a missing tray", KeepBoundaries::rich, NO_SUCH, new int[] {-1, 6, LEAST, MOST}, (x, p) -> x.copy(2, p));
+    });
+    sentence(41, "IllegalStateException: it is MISSING (as below)", () -> {
       refused("copy(2, 0)", KeepBoundaries::rich, STATE, x -> x.copy(2, 0));
     });
     sentence(41, "as many as it has places: how many", () -> {
@@ -165,8 +172,10 @@ public final class KeepBoundaries extends Sentences {
       for (int i = 0; i < 3; i++) { x.image(i); }
       is("three can be", x.count(3), 6);
     });
-    sentence(43, "NoSuchElementException: no such one; IllegalStateException: none was made", () -> {
+    sentence(43, "NoSuchElementException: no such one", () -> {
       refusedEach("restore", KeepBoundaries::rich, NO_SUCH, NO_IMAGE, (x, i) -> { x.restore(i); return 0; });
+    });
+    sentence(43, "IllegalStateException: none was made", () -> {
       refused("restore(1)", KeepBoundaries::rich, STATE, x -> { x.restore(1); return 0; });
       for (int made = 0; made < 3; made++) {
         FrontChairs x = new FrontChairs();

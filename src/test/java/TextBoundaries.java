@@ -21,6 +21,22 @@ public final class TextBoundaries extends Sentences {
     return told("beach 2 3;person at 0 0;person at 1 1 age 9;minute 4;moves:" + truth + ";").moves(1, 1, 2);
   }
 
+  private static final String[] VOCABULARY = {"beach", "person", "at", "moves", "tide", "wets", "minute", "age", "asleep", "rises", "for",
+      "not", "and", "or", "who", "column", "row", ";", ":", "+", "-", "*", "(", ")", "[", "]", "=", "<", ">", "7"};
+
+  /** Behind a text just these tokens can stand; the number is out of some bounds, or the text ends too early. */
+  private static void onlyThese(String text, String tokens) {
+    String spaced = " " + tokens + " ";
+    String before = text + " ";
+    for (String token : VOCABULARY) {
+      FrontChairs x = new FrontChairs();
+      tell(x, before + token);
+      boolean stands = x.fault(0) == 0 || x.fault(0) == 3 || x.fault(1) > before.length();
+      holds(token + " behind " + text + ": fault " + x.fault(0) + " at " + x.fault(1), stands == spaced.contains(" " + token + " "));
+      if (!stands) { is("kind of " + token + " behind " + text, x.fault(0), 2); }
+    }
+  }
+
   private static String people(int many) {
     StringBuilder s = new StringBuilder();
     for (int p = 0; p < many; p++) { s.append("person at ").append(p % 4).append(' ').append(p / 4).append(';'); }
@@ -111,6 +127,9 @@ public final class TextBoundaries extends Sentences {
       is("the end's place", x.fault(1), 18);
       feed(x, "beach 3 1;minute 1234;");
       is("the fourth digit is not read", x.beach(20), -12);
+      feed(x, "beach 3 1;persons at 0 0;");
+      is("a word cut off", x.beach(16), -12);
+      is("the end's place", x.fault(1), 16);
     });
     sentence(3, "The first n bytes: n is 0", () -> {
       is("beach(0) of an empty tape", new FrontChairs().beach(0), -12);
@@ -151,6 +170,25 @@ public final class TextBoundaries extends Sentences {
       is("tide of no law", x.tide(0), 0);
       is("undo(1)", thrown(x, y -> y.undo(1)).equals("IllegalArgumentException") ? 1 : 0, 1);
     });
+    sentence(3, "THE BEACH: nothing of an elder one is left", () -> {
+      FrontChairs x = told("beach 4 5;person at 3 4 age 9 asleep rises 1 for 2;moves:1=2;tide:1;wets:1;minute 7;");
+      is("told again", tell(x, "beach 4 5;person at 3 3;"), 2);
+      same("as on a new object", x, told("beach 4 5;person at 3 3;"));
+      FrontChairs y = told("beach 4 5;person at 3 4 age 9 asleep rises 1 for 2;moves:1=2;tide:1;wets:1;minute 7;");
+      is("a fault between", tell(y, "beach 4 5;person at 3 3 age 5;minute 6;person at 3 3;"), -13);
+      is("told again", tell(y, "beach 4 5;person at 3 3;"), 2);
+      same("as on a new object", y, told("beach 4 5;person at 3 3;"));
+    });
+    sentence(3, "so often as there are calls", () -> {
+      FrontChairs x = new FrontChairs();
+      String laws = "moves:" + "1=2 or ".repeat(50) + "row=2;tide:" + "0+".repeat(100) + "3;";
+      for (int i = 0; i < 12; i++) {
+        is("beach " + i, tell(x, "beach 1 5;person at 0 0;" + laws), 4);
+        is("tide", x.tide(0), 3);
+        is("moves to row 2", x.moves(0, 0, 2) ? 1 : 0, 1);
+        is("moves to row 1", x.moves(0, 0, 1) ? 1 : 0, 0);
+      }
+    });
     sentence(3, "how many LINES (beach, too)", () -> {
       lines("beach 1 1;", 1);
       lines("beach 1 1;minute 1;", 2);
@@ -190,6 +228,9 @@ public final class TextBoundaries extends Sentences {
     sentence(4, "its place: the last that there can be", () -> {
       fault(padded("beach 1 1", 899) + "!", 1, 899);
       fault(padded("beach 1 1", 900), 2, 900);
+      fault(padded("beach 1 1;", 894) + "person", 2, 900);
+      fault(padded("beach 1 1;", 894) + "parson", 2, 894);
+      fault(padded("beach 1 1;minute", 897) + "999", 2, 900);
     });
     sentence(4, "Of the latest beach() that threw nothing", () -> {
       FrontChairs x = new FrontChairs();
@@ -214,7 +255,7 @@ public final class TextBoundaries extends Sentences {
   }
 
   private static void sizes() {
-    sentence(0, "a TEXT of at most 900 bytes", () -> {
+    sentence(3, "a TEXT of at most 900 bytes", () -> {
       String text = "beach 4 5;" + people(8) + "moves:" + "1=1 or ".repeat(108) + "1=1 ;";
       lines(padded(text, 899) + "\n", 10);
       is("its length", text.length() <= 899 ? 1 : 0, 1);
@@ -223,7 +264,7 @@ public final class TextBoundaries extends Sentences {
       lines(deep + "1 ;", 2);
       is("its tide", told(deep + "1 ;").tide(0), 5);
     });
-    sentence(0, "beach: COLUMNS 1 to 4, ROWS 1 to 5", () -> {
+    sentence(3, "beach: COLUMNS 1 to 4, ROWS 1 to 5", () -> {
       for (int c = 1; c <= 4; c++) {
         for (int r = 1; r <= 5; r++) {
           FrontChairs x = told("beach " + c + " " + r + ";");
@@ -239,7 +280,7 @@ public final class TextBoundaries extends Sentences {
       fault("beach 1 6;", 3, 8);
       fault("beach 4 6;", 3, 8);
     });
-    sentence(0, "person: COLUMN, ROW of a CHAIR that is free yet", () -> {
+    sentence(3, "person: COLUMN, ROW of a CHAIR that is free yet", () -> {
       lines("beach 3 4;person at 2 3;person at 0 3;person at 2 0;person at 0 0;", 5);
       fault("beach 3 4;person at 3 0;", 3, 20);
       fault("beach 3 4;person at 2 4;", 3, 22);
@@ -250,7 +291,7 @@ public final class TextBoundaries extends Sentences {
       lines("beach 3 4;person at 2 3;person at 1 3;", 3);
       fault("beach 1 2;person at 0 1;person at 0 0;person at 0 2;", 3, 50);
     });
-    sentence(0, "age 0 to 99 (0)", () -> {
+    sentence(3, "age 0 to 99 (0)", () -> {
       FrontChairs x = told("beach 3 1;person at 0 0;person at 1 0 age 99;person at 2 0 age 0;");
       is("told nothing", x.person(0, 2), 0);
       is("99", x.person(1, 2), 99);
@@ -258,7 +299,7 @@ public final class TextBoundaries extends Sentences {
       fault("beach 3 1;person at 0 0 age 100;", 3, 28);
       fault("beach 3 1;person at 0 0 age 999;", 3, 28);
     });
-    sentence(0, "rises: in which MINUTE, 0 to 999, for how many, 1 to 99", () -> {
+    sentence(3, "rises: in which MINUTE, 0 to 999, for how many, 1 to 99", () -> {
       FrontChairs x = told("beach 3 1;person at 0 0 rises 0 for 1;person at 1 0 rises 999 for 99;person at 2 0;");
       is("0", x.person(0, 5), 0);
       is("for 1", x.person(0, 6), 1);
@@ -270,19 +311,19 @@ public final class TextBoundaries extends Sentences {
       fault("beach 3 1;person at 0 0 rises 1 for 0;", 3, 36);
       fault("beach 3 1;person at 0 0 rises 1 for 100;", 3, 36);
     });
-    sentence(0, "numbered from 0 on, 8 at most", () -> {
+    sentence(3, "numbered from 0 on, 8 at most", () -> {
       FrontChairs x = told("beach 4 5;" + people(8));
       is("people", x.count(3), 8);
       for (int p = 0; p < 8; p++) { is("person " + p, x.chair(p % 4, p / 4), p); }
       fault("beach 4 5;" + people(9), 4, 122);
     });
-    sentence(0, "minute: the first one, 0 to 999 (0)", () -> {
+    sentence(3, "minute: the first one, 0 to 999 (0)", () -> {
       is("told nothing", told("beach 1 1;").count(6), 0);
       is("0", told("beach 1 1;minute 0;").count(6), 0);
       is("999", told("beach 1 1;minute 999;").count(6), 999);
       fault("beach 1 1;minute 1000;", 1, 17);
     });
-    sentence(0, "1 COLUMN, 1 ROW: the least beach", () -> {
+    sentence(3, "1 COLUMN, 1 ROW: the least beach", () -> {
       FrontChairs x = told("beach 1 1;person at 0 0 age 9;");
       is("chair", x.chair(0, 0), 0);
       is("free", x.count(7), 0);
@@ -290,7 +331,7 @@ public final class TextBoundaries extends Sentences {
   }
 
   private static void strikes() {
-    sentence(0, "of a word the later one strikes", () -> {
+    sentence(3, "of a word the later one strikes", () -> {
       FrontChairs x = told("beach 1 1;person at 0 0 age 9 rises 1 for 2 asleep rises 3 for 4 age 0 asleep;");
       is("age", x.person(0, 2), 0);
       is("asleep", x.person(0, 3), 1);
@@ -298,15 +339,20 @@ public final class TextBoundaries extends Sentences {
       is("for", x.person(0, 6), 4);
       fault("beach 1 1;person at 0 0 age 100 age 9;", 3, 28);
     });
-    sentence(0, "Later ones of moves, tide, wets, minute strike", () -> {
+    sentence(3, "Later ones of moves, tide, wets, minute strike", () -> {
       FrontChairs x = told("beach 1 3;person at 0 0;minute 7;moves:1=2;tide:1;wets:1;moves:1=1;tide:2;wets:2;minute 8;minute 0;");
       is("moves", x.moves(0, 0, 0) ? 1 : 0, 1);
       is("tide", x.tide(0), 2);
       is("wets", x.wets(0, 2, 0), 2);
       is("minute", x.count(6), 0);
       is("lines", x.count(0), 11);
+      FrontChairs y = told("beach 1 5;person at 0 0;" + "tide:1;".repeat(60) + "tide:4;" + "wets:3;".repeat(60));
+      is("the last of 61 tides", y.tide(0), 4);
+      is("the last of 60 wets", y.wets(0, 4, 0), 3);
+      FrontChairs z = told("beach 1 5;person at 0 0;" + "moves:1=2;".repeat(80) + "moves:1=1;");
+      is("the last of 81 moves", z.moves(0, 0, 4) ? 1 : 0, 1);
     });
-    sentence(0, "no LINE has to be told in an order", () -> {
+    sentence(3, "no LINE has to be told in an order", () -> {
       FrontChairs x = told("beach 1 3;wets:row;tide:minute;moves:age=7;minute 2;person at 0 2 age 7;");
       is("moves", x.moves(0, 0, 0) ? 1 : 0, 1);
       is("tide", x.tide(0), 2);
@@ -315,7 +361,7 @@ public final class TextBoundaries extends Sentences {
   }
 
   private static void tokens() {
-    sentence(0, "TOKENS, as long as they go", () -> {
+    sentence(4, "TOKENS, as long as they go", () -> {
       lines("beach1 1;person at0 0age 3asleep rises 1for 2;moves:not 1=1and 1=1or 1=1;tide:(1)*minute;", 4);
       fault("beach 11;", 3, 6);
       fault("beach 1 1;personat 0 0;", 2, 10);
@@ -324,7 +370,7 @@ public final class TextBoundaries extends Sentences {
       fault("beach 1 1;tide:minutes;", 2, 15);
       fault("beach 1 1;tide:minut;", 2, 15);
     });
-    sentence(0, "between them blanks (10, 32)", () -> {
+    sentence(4, "between them blanks (10, 32)", () -> {
       lines("\n \n beach\n1\n\n1 ; minute\n3\n;\n \n", 2);
       for (int sign = 0; sign < 256; sign++) {
         boolean blank = sign == 10 || sign == 32;
@@ -334,14 +380,14 @@ public final class TextBoundaries extends Sentences {
       }
       fault("bea ch 1 1;", 2, 0);
     });
-    sentence(0, "N (1 to 3 digits)", () -> {
+    sentence(4, "N (1 to 3 digits)", () -> {
       is("1 digit", told("beach 1 1;minute 7;").count(6), 7);
       is("2 digits", told("beach 1 1;minute 07;").count(6), 7);
       is("3 digits", told("beach 1 1;minute 007;").count(6), 7);
       fault("beach 1 1;minute 0007;", 1, 17);
       lines("beach 001 005;person at 000 004 age 099 rises 000 for 099;", 2);
     });
-    sentence(0, "1 no TOKEN begins so (4 digits and more: at their first)", () -> {
+    sentence(4, "1 no TOKEN begins so (4 digits and more: at their first)", () -> {
       fault("beach 1000 1;", 1, 6);
       fault("beach 1 1;tide:12345678901234567890;", 1, 15);
       fault("beach 1 1 1000", 1, 10);
@@ -356,7 +402,7 @@ public final class TextBoundaries extends Sentences {
   }
 
   private static void faultsOfKindTwo() {
-    sentence(0, "2 it can't stand there (the end: the text's length", () -> {
+    sentence(4, "2 it can't stand there (the end: the text's length", () -> {
       String text = "beach 2 2;person at 1 1 age 3 rises 4 for 5 asleep;moves:not[(1)=2 or 1<2*row and 3>who];tide:(1+2);minute 5;";
       lines(text, 5);
       for (int n = 0; n < text.length(); n++) {
@@ -370,7 +416,7 @@ public final class TextBoundaries extends Sentences {
         }
       }
     });
-    sentence(0, "beach must be told first, and once", () -> {
+    sentence(4, "beach must be told first, and once", () -> {
       for (String line : new String[] {"person at 0 0;", "moves:1=1;", "tide:1;", "wets:1;", "minute 1;", ";", "1", "who", "at"}) {
         fault(line + "beach 1 1;", 2, 0);
         lines("beach 1 1;" + (line.length() > 4 ? line : ""), line.length() > 4 ? 2 : 1);
@@ -379,7 +425,7 @@ public final class TextBoundaries extends Sentences {
       fault("beach 1 1;minute 1;beach 1 1;", 2, 19);
       fault("beach 1 1 beach 1 1;", 2, 10);
     });
-    sentence(0, "a word of another law", () -> {
+    sentence(4, "a word of another law", () -> {
       for (String word : new String[] {"who", "age", "column", "row"}) {
         lines("beach 1 1;moves:" + word + "=1;", 2);
         fault("beach 1 1;tide:" + word + ";", 2, 15);
@@ -397,7 +443,7 @@ public final class TextBoundaries extends Sentences {
         fault("beach 1 1;moves:1=" + word + ";", 2, 18);
       }
     });
-    sentence(0, "person at N N { FLAG }", () -> {
+    sentence(4, "person at N N { FLAG }", () -> {
       fault("beach 1 1;person;", 2, 16);
       fault("beach 1 1;person 0 0;", 2, 17);
       fault("beach 1 1;person at;", 2, 19);
@@ -420,7 +466,67 @@ public final class TextBoundaries extends Sentences {
       fault("beach 1 1 1;", 2, 10);
       fault("beach 1 1:", 2, 9);
     });
-    sentence(0, "TRUTH and SUM: what can't stand in them", () -> {
+    sentence(4, "2 it can't stand there: each TOKEN at each place", () -> {
+      String line = "beach 2 2;";
+      onlyThese("", "beach");
+      onlyThese("beach", "7");
+      onlyThese("beach 2", "7");
+      onlyThese("beach 2 2", ";");
+      onlyThese(line, "person moves tide wets minute");
+      onlyThese(line + "person", "at");
+      onlyThese(line + "person at", "7");
+      onlyThese(line + "person at 1", "7");
+      onlyThese(line + "person at 1 1", "age asleep rises ;");
+      onlyThese(line + "person at 1 1 age", "7");
+      onlyThese(line + "person at 1 1 age 3", "age asleep rises ;");
+      onlyThese(line + "person at 1 1 asleep", "age asleep rises ;");
+      onlyThese(line + "person at 1 1 rises", "7");
+      onlyThese(line + "person at 1 1 rises 3", "for");
+      onlyThese(line + "person at 1 1 rises 3 for", "7");
+      onlyThese(line + "person at 1 1 rises 3 for 4", "age asleep rises ;");
+      onlyThese(line + "minute", "7");
+      onlyThese(line + "minute 3", ";");
+      onlyThese(line + "moves", ":");
+      onlyThese(line + "tide", ":");
+      onlyThese(line + "wets", ":");
+    });
+    sentence(4, "2 it can't stand there: each TOKEN at each place of a law", () -> {
+      String line = "beach 2 2;";
+      String unit = "not [ ( 7 minute who age column row";
+      String atom = "( 7 minute who age column row";
+      for (String start : new String[] {"moves:", "moves:not", "moves:[", "moves:1=1 and", "moves:1=1 or", "moves:[1=1]and"}) { onlyThese(line + start, unit); }
+      for (String start : new String[] {"moves:1=", "moves:1<", "moves:1>", "moves:(", "moves:1+", "moves:1-", "moves:1*", "moves:1=1*"}) { onlyThese(line + start, atom); }
+      for (String start : new String[] {"moves:1", "moves:who", "moves:not age", "moves:(1)", "moves:[1"}) { onlyThese(line + start, "+ - * = < >"); }
+      for (String start : new String[] {"moves:1=1", "moves:row<(1)", "moves:not 1=1"}) { onlyThese(line + start, "+ - * and or ;"); }
+      onlyThese(line + "moves:[1=1", "+ - * and or ]");
+      onlyThese(line + "moves:[1=1]", "and or ;");
+      onlyThese(line + "moves:[[1=1]", "and or ]");
+      onlyThese(line + "moves:(1", "+ - * )");
+      onlyThese(line + "moves:1=(1", "+ - * )");
+      for (String start : new String[] {"tide:", "tide:(", "tide:1+", "tide:1-", "tide:1*"}) {
+        onlyThese(line + start, "( 7 minute");
+        onlyThese(line + start.replace("tide", "wets"), "( 7 minute column row");
+      }
+      for (String law : new String[] {"tide:", "wets:"}) {
+        for (String sum : new String[] {"1", "minute", "(1)", "1+2"}) { onlyThese(line + law + sum, "+ - * ;"); }
+        onlyThese(line + law + "(1", "+ - * )");
+      }
+    });
+    sentence(4, "2 it can't stand there: a word that is none", () -> {
+      for (String word : VOCABULARY) {
+        if (word.length() < 2) { continue; }
+        String first = word.charAt(0) == 'x' ? "y" : "x";
+        String[] spoilt = {first + word.substring(1), word.substring(0, word.length() - 1) + "x", word + "x", "x" + word, word.substring(1),
+            word.substring(0, word.length() - 1)};
+        for (String none : spoilt) {
+          String text = "beach 2 2;person at 0 0 age 1 asleep rises 1 for 1;moves:not who=age and column=row or 1=1;tide:minute;wets:1;minute 3;";
+          int at = text.indexOf(word);
+          while (at > 0 && Character.isLetter(text.charAt(at - 1))) { at = text.indexOf(word, at + 1); }
+          if (!String.join(" ", VOCABULARY).contains(none)) { fault(text.substring(0, at) + none + text.substring(at + word.length()), 2, at); }
+        }
+      }
+    });
+    sentence(4, "TRUTH and SUM: what can't stand in them", () -> {
       String m = "beach 1 1;moves:";
       fault("beach 1 1;moves 1=1;", 2, 16);
       fault(m + ";", 2, 16);
@@ -463,7 +569,7 @@ public final class TextBoundaries extends Sentences {
   }
 
   private static void faultsOfKindsThreeAndFour() {
-    sentence(0, "3 N is out of its bounds (the ROW of a CHAIR that isn't free)", () -> {
+    sentence(4, "3 N is out of its bounds (the ROW of a CHAIR that isn't free)", () -> {
       String two = "beach 2 2;person at 1 0;";
       fault(two + "person at 1 0 age 100;", 3, 36);
       fault(two + "person at 1 00;", 3, 36);
@@ -472,10 +578,10 @@ public final class TextBoundaries extends Sentences {
       lines(two + "person at 0 0;", 3);
       lines(two + "person at 1 1;", 3);
     });
-    sentence(0, "N is out of its bounds: those of laws have none", () -> {
+    sentence(4, "N is out of its bounds: those of laws have none", () -> {
       lines("beach 1 1;tide:999+0;wets:999;moves:0=999;", 4);
     });
-    sentence(0, "4 the first TOKEN of a 9th person", () -> {
+    sentence(4, "4 the first TOKEN of a 9th person", () -> {
       String eight = "beach 4 5;" + people(8);
       fault(eight + "person", 4, 122);
       fault(eight + "\n person ?", 4, 124);
@@ -483,7 +589,7 @@ public final class TextBoundaries extends Sentences {
       fault(eight + "minute 3;person at 3 4;", 4, 131);
       lines(eight + "minute 3;tide:1;", 11);
     });
-    sentence(0, "4 a seventh of not [ (", () -> {
+    sentence(4, "4 a seventh of not [ (", () -> {
       fault("beach 1 1;moves:" + "not ".repeat(7) + "1=1;", 4, 40);
       fault("beach 1 1;moves:" + "[".repeat(7) + "1=1" + "]".repeat(7) + ";", 4, 22);
       fault("beach 1 1;moves:" + "(".repeat(7) + "1" + ")".repeat(7) + "=1;", 4, 22);
@@ -498,14 +604,14 @@ public final class TextBoundaries extends Sentences {
   }
 
   private static void whichFault() {
-    sentence(0, "FAULTS, the first along the text", () -> {
+    sentence(4, "FAULTS, the first along the text", () -> {
       fault("beach 9 9;!", 3, 6);
       fault("beach 1 1;person at 0 9 ? 1000;", 3, 22);
       fault("beach 1 ;person at 0 9;", 2, 8);
       fault("beach 1 1;! beach 5;", 1, 10);
       fault("beach 4 5;" + people(8) + "minute;person", 2, 128);
     });
-    sentence(0, "of one TOKEN the least kind", () -> {
+    sentence(4, "of one TOKEN the least kind", () -> {
       fault("beach 1000 1;", 1, 6);
       fault("beach 1 1;person at 0 9999;", 1, 22);
       fault("beach 1 1 9;", 2, 10);
@@ -521,7 +627,7 @@ public final class TextBoundaries extends Sentences {
   }
 
   private static void depths() {
-    sentence(0, "At most six of not [ ( within one another", () -> {
+    sentence(4, "At most six of not [ ( within one another", () -> {
       is("six not", moves("not not not not not not row=2") ? 1 : 0, 1);
       is("five not", moves("not not not not not row=2") ? 1 : 0, 0);
       is("six [", moves("[[[[[[row=2]]]]]]") ? 1 : 0, 1);
@@ -530,7 +636,7 @@ public final class TextBoundaries extends Sentences {
       is("six ( of a sum", tide("((((((2))))))"), 2);
       is("six of all", moves("not[not[((row))=2]]") ? 1 : 0, 1);
     });
-    sentence(0, "within one another: not beside one another", () -> {
+    sentence(4, "within one another: not beside one another", () -> {
       is("ten ( beside", tide("(1)+(1)-(1)+(1)-(1)*(1)+(1)+(1)-(1)+(1)"), 3);
       is("six ( twice", tide("((((((1))))))+((((((1))))))"), 2);
       is("six not, three times", moves("not not not not not not 1=1 and not not not not not not 1=1 or not not not not not not 1=1") ? 1 : 0, 1);
@@ -538,7 +644,7 @@ public final class TextBoundaries extends Sentences {
       is("not is over behind its UNIT", moves("[not 1=2 and [[[[[1=1]]]]]]") ? 1 : 0, 1);
       is("six ( on both sides", moves("((((((1))))))=((((((1))))))") ? 1 : 0, 1);
     });
-    sentence(0, "six within one another, with as much waiting as can be", () -> {
+    sentence(4, "six within one another, with as much waiting as can be", () -> {
       String open = "1=2 or 1=1 and[".repeat(3) + "1=2 or 1=1 and not not 1<1+1*(1+1*1)" + "]".repeat(3);
       is("waiting parts", moves(open) ? 1 : 0, 1);
       is("waiting sums", tide("1+1*(0+1*(0+1*(0+1*(0+1*(0+1*(1+1))))))"), 3);
@@ -547,7 +653,7 @@ public final class TextBoundaries extends Sentences {
   }
 
   private static void sums() {
-    sentence(0, "each + - * kept from -1,000,000 to 1,000,000", () -> {
+    sentence(7, "each + - * kept from -1,000,000 to 1,000,000", () -> {
       is("+ to a million", tide("999*999+999+999+1-999*999-999-997"), 3);
       is("+ above a million", tide("999*999+999+999+2-999*999-999-997"), 3);
       is("+ below a million", tide("999*999+999+999+0-999*999-999-997"), 2);
@@ -560,12 +666,12 @@ public final class TextBoundaries extends Sentences {
       is("* of both millions", tide("999*999*999*((0-999)*999*999)+999*999+999+999+4"), 3);
       is("* of two minus millions", tide("((0-999)*999*999)*((0-999)*999*999)-999*999-999-997"), 3);
     });
-    sentence(0, "each is kept by itself, not the whole", () -> {
+    sentence(7, "each is kept by itself, not the whole", () -> {
       is("up, then down", tide("999*999*999*0+3"), 3);
       is("a term is kept ahead of its sum", tide("999*999*2-999*999-999-997"), 3);
       is("from the left", tide("999*999+999*999-999*999-999-997"), 3);
     });
-    sentence(0, "SUM: TERM { + TERM | - TERM }; TERM: ATOM { * ATOM }", () -> {
+    sentence(7, "SUM: TERM { + TERM | - TERM }; TERM: ATOM { * ATOM }", () -> {
       is("- from the left", tide("9-4-2"), 3);
       is("- then +", tide("9-7+1"), 3);
       is("* ahead of -", tide("9-2*3"), 3);
@@ -576,7 +682,7 @@ public final class TextBoundaries extends Sentences {
   }
 
   private static void truths() {
-    sentence(0, "TRUTH: BOTH { or BOTH }; BOTH: UNIT { and UNIT }", () -> {
+    sentence(8, "TRUTH: BOTH { or BOTH }; BOTH: UNIT { and UNIT }", () -> {
       is("or behind and", moves("1=2 and 1=2 or 1=1") ? 1 : 0, 1);
       is("and behind or", moves("1=1 or 1=2 and 1=2") ? 1 : 0, 1);
       is("[ ]", moves("[1=1 or 1=2]and 1=2") ? 1 : 0, 0);
@@ -585,16 +691,25 @@ public final class TextBoundaries extends Sentences {
       is("not takes one UNIT", moves("not 1=1 or 1=1") ? 1 : 0, 1);
       is("not of a TRUTH", moves("not[1=1 or 1=1]") ? 1 : 0, 0);
     });
-    sentence(0, "SUM, one of = < >, SUM", () -> {
+    sentence(8, "SUM, one of = < >, SUM", () -> {
       for (int a = 0; a < 3; a++) {
         is(a + "=1", moves(a + "=1") ? 1 : 0, a == 1 ? 1 : 0);
         is(a + "<1", moves(a + "<1") ? 1 : 0, a < 1 ? 1 : 0);
         is(a + ">1", moves(a + ">1") ? 1 : 0, a > 1 ? 1 : 0);
       }
+      for (String sign : new String[] {"1=1", "1<2", "2>1"}) {
+        is("not " + sign, moves("not " + sign) ? 1 : 0, 0);
+        is("not not " + sign, moves("not not " + sign) ? 1 : 0, 1);
+        for (String other : new String[] {"1=1", "1<2", "2>1"}) {
+          is(sign + " and " + other, moves(sign + " and " + other) ? 1 : 0, 1);
+          is(sign + " and not " + other, moves(sign + " and not " + other) ? 1 : 0, 0);
+          is("not " + sign + " or " + other, moves("not " + sign + " or " + other) ? 1 : 0, 1);
+        }
+      }
       is("below 0", moves("0-1<0") ? 1 : 0, 1);
       is("a million is a million", moves("999*999*999=999*999*998") ? 1 : 0, 1);
     });
-    sentence(0, "in moves who, age, column, row; minute in all", () -> {
+    sentence(8, "in moves who, age, column, row; minute in all", () -> {
       is("who", moves("who=1") ? 1 : 0, 1);
       is("age", moves("age=9") ? 1 : 0, 1);
       is("column", moves("column=1") ? 1 : 0, 1);
