@@ -180,8 +180,7 @@ public final class FrontChairs {
         needTray(tray);
         needLaid(tray);
         needWithin(what, 0, 3);
-        Seats then = trials[0];
-        then.copyFrom(seats);
+        Seats then = trial();
         Tray told = trays[tray];
         int place = 0;
         int why = 0;
@@ -234,7 +233,7 @@ public final class FrontChairs {
 
     public int wetIn(int p) throws NoSuchElementException {
         needPerson(p);
-        Seats then = ahead(0);
+        Seats then = trial();
         for (int n = 0; n <= AHEAD; n++) {
             if ((then.wet >> p & 1) == 1) {
                 return n;
@@ -246,7 +245,7 @@ public final class FrontChairs {
 
     public int wetBy(int n) throws IllegalArgumentException {
         needWithin(n, 0, AHEAD);
-        Seats then = ahead(0);
+        Seats then = trial();
         for (int i = 0; i < n; i++) {
             then.pass(then.level());
         }
@@ -255,7 +254,7 @@ public final class FrontChairs {
 
     public int frontIn(int p) throws NoSuchElementException {
         needPerson(p);
-        Seats then = ahead(0);
+        Seats then = trial();
         for (int n = 0; n <= AHEAD; n++) {
             if (then.row[p] == 0) {
                 return n;
@@ -273,7 +272,7 @@ public final class FrontChairs {
     public int king(int n) throws IllegalArgumentException {
         needWithin(n, 0, AHEAD);
         Arrays.fill(tallies, 0);
-        Seats then = ahead(0);
+        Seats then = trial();
         int people = then.beach.people;
         for (int i = 0; i <= n; i++) {
             for (int p = 0; p < people; p++) {
@@ -334,7 +333,7 @@ public final class FrontChairs {
     public int round(int column) throws NoSuchElementException {
         needChair(column, 0);
         int awaited = seats.sittersIn(column);
-        Seats then = ahead(0);
+        Seats then = trial();
         for (int n = 0; n <= ROUND_AHEAD; n++) {
             int who = then.whoOn(column, 0);
             if (who != NONE) {
@@ -358,7 +357,7 @@ public final class FrontChairs {
         int most = 0;
         for (int p = 0; p < seats.beach.people; p++) {
             if (seats.whyNotLeave(p) == 0) {
-                int came = ahead(0).leave(p);
+                int came = trial().leave(p);
                 if (came > most) {
                     most = came;
                     best = p;
@@ -421,7 +420,7 @@ public final class FrontChairs {
         needPerson(p);
         needWithin(n, 0, DRY_AHEAD);
         needWithin(what, 0, 1);
-        long above = ahead(0).dryChances(p, n);
+        long above = trial().dryChances(p, n);
         long below = 1;
         for (int i = 0; i < n; i++) {
             below *= 10;
@@ -438,7 +437,7 @@ public final class FrontChairs {
         int best = NONE;
         long most = NONE;
         for (int p = 0; p < seats.beach.people; p++) {
-            long chances = ahead(0).dryChances(p, n);
+            long chances = trial().dryChances(p, n);
             if (chances > most) {
                 most = chances;
                 best = p;
@@ -457,7 +456,7 @@ public final class FrontChairs {
         int best = NONE;
         long most = NONE;
         for (int column = 0; column < seats.beach.columns; column++) {
-            Seats then = ahead(0);
+            Seats then = trial();
             if (then.take(p, column) != NONE) {
                 long chances = then.dryChances(p, n);
                 if (chances > most) {
@@ -533,7 +532,7 @@ public final class FrontChairs {
         needPerson(p);
         needLaid(tray);
         Tray filled = trays[tray];
-        Seats then = ahead(0);
+        Seats then = trial();
         for (int place = 0; place < filled.many; place++) {
             filled.put(place, then.place(p));
             then.pass(0);
@@ -641,10 +640,16 @@ public final class FrontChairs {
         }
     }
 
-    /** The seats as they will be in n minutes, wetness left out; to be played on. */
-    private Seats ahead(int n) {
+    /** The seats as they are now, to be played on. */
+    private Seats trial() {
         Seats then = trials[0];
         then.copyFrom(seats);
+        return then;
+    }
+
+    /** The seats as they will be in n minutes, wetness left out; to be played on. */
+    private Seats ahead(int n) {
+        Seats then = trial();
         for (int i = 0; i < n; i++) {
             then.pass(0);
         }
@@ -683,7 +688,7 @@ public final class FrontChairs {
         if (seats.row[p] == NONE) {
             return NONE;
         }
-        ahead(0);
+        trials[0].copyFrom(seats);
         for (int many = 0; many < MOST_ROWS; many++) {
             if (risersBring(p, row, 0, many)) {
                 return many;
@@ -730,7 +735,7 @@ public final class FrontChairs {
     }
 
     private boolean bringsToFront(int set, int p, int n) {
-        Seats then = ahead(0);
+        Seats then = trial();
         for (int q = 0; q < then.beach.people; q++) {
             if ((set >> q & 1) == 1) {
                 then.leave(q);
@@ -774,7 +779,7 @@ public final class FrontChairs {
     }
 
     private Seats exchangedAhead(int p, int q, int n) {
-        Seats then = ahead(0);
+        Seats then = trial();
         then.exchange(p, q);
         for (int i = 0; i < n && i < FAINT_AHEAD; i++) {
             then.pass(levels[i]);
